@@ -74,8 +74,8 @@ public final class AdjoinedSets {
     public long eval() {
         long answer = reader.readTerm();
         if (answer >= 0) {
-            startWork();
-            answer = worker.codeOf(buffer, 0, 0, 1);
+            giveValues();
+            answer = worker.codeOf(buffer);
         }
         buffer.empty();
         return answer;
@@ -84,8 +84,8 @@ public final class AdjoinedSets {
     public int truth() {
         int answer = reader.readFormula();
         if (answer >= 0) {
-            startWork();
-            answer = worker.holds(buffer, 0, 0, 1);
+            giveValues();
+            answer = worker.truthOf(buffer);
         }
         buffer.empty();
         return answer;
@@ -137,7 +137,7 @@ public final class AdjoinedSets {
         }
         int answer = reader.readFormula();
         if (answer >= 0) {
-            int free = buffer.freeIn(0, 1);
+            int free = buffer.freeIn(0);
             answer = Integer.bitCount(free) > 2 ? BAD : firstRefuting(free, k);
         }
         buffer.empty();
@@ -176,8 +176,7 @@ public final class AdjoinedSets {
         return most;
     }
 
-    private void startWork() {
-        worker.start();
+    private void giveValues() {
         for (int x = 0; x < LETTERS; x++) {
             worker.give(x, values[x]);
         }
@@ -223,15 +222,14 @@ public final class AdjoinedSets {
     /** Where there is no first or no second letter, just 0 is tried for it. */
     private int firstRefuting(int free, int k) {
         int first = lowestLetter(free);
-        int second = lowestLetter(free & free - 1);
+        int second = lowestLetter(free & (free - 1));
         int firstEnd = first < LETTERS ? k : 1;
         int secondEnd = second < LETTERS ? k : 1;
         for (int v = 0; v < firstEnd; v++) {
             for (int w = 0; w < secondEnd; w++) {
-                worker.start();
                 worker.give(first, v);
                 worker.give(second, w);
-                if (worker.holds(buffer, 0, 0, 1) == 0) {
+                if (worker.truthOf(buffer) == 0) {
                     return 64 * v + w;
                 }
             }
@@ -328,21 +326,21 @@ public final class AdjoinedSets {
             return true;
         }
 
-        boolean same(Text other) {
-            return length == other.length && has(0, other, 0, length);
+        /** The letters (a as 1, b as 2, c as 4 ..) that are free in the part at a place. */
+        int freeIn(int place) {
+            return freeFrom(place, 1);
         }
 
-        /** The letters (a as 1, b as 2, c as 4 ..) that are free in the part at a place. */
-        int freeIn(int place, int depth) {
+        private int freeFrom(int place, int depth) {
             int c = at(place);
             if (isLetter(c)) {
-                return 1 << c - 'a';
+                return 1 << (c - 'a');
             }
             int free = 0;
             int part = firstPartOf(place);
             int end = endOf(place);
             for (int k = 0; k < MOST_TAKEN && part < end && depth < DEEPEST; k++) {
-                int inPart = freeIn(part, depth + 1);
+                int inPart = freeFrom(part, depth + 1);
                 free |= k == 1 ? inPart & ~boundBy(place) : inPart;
                 part = endOf(part);
             }
@@ -351,7 +349,7 @@ public final class AdjoinedSets {
 
         /** The letter that the operator at a place binds in its second part, as in freeIn; 0 when it binds none. */
         int boundBy(int place) {
-            return isBinder(at(place)) && isLetter(at(place + 1)) ? 1 << at(place + 1) - 'a' : 0;
+            return isBinder(at(place)) && isLetter(at(place + 1)) ? 1 << (at(place + 1) - 'a') : 0;
         }
     }
 
@@ -407,7 +405,7 @@ public final class AdjoinedSets {
                 return FULL;
             }
             texts[count].copy(text);
-            rest[count] = restOfNamed | 1 << count;
+            rest[count] = restOfNamed | (1 << count);
             count++;
             return count - 1;
         }
@@ -492,11 +490,11 @@ public final class AdjoinedSets {
                 case '|':
                 case '&':
                 case '-':
-                    return terms(place, 2, depth);
+                    return parts(place, 2, false, depth);
                 case 'U':
                 case 'P':
                 case 'T':
-                    return terms(place, 1, depth);
+                    return parts(place, 1, false, depth);
                 case '{':
                     return binder(place, true, depth);
                 case 'I':
@@ -510,13 +508,13 @@ public final class AdjoinedSets {
             int f = text.at(place) - 'A';
             if (f != own) {
                 int takes = functions[f].takes();
-                return takes == 0 ? wrong(place) : terms(place, takes, depth);
+                return takes == 0 ? wrong(place) : parts(place, takes, false, depth);
             }
             int first = text.at(place + 1);
             if (!isLetter(first) || scope[first - 'a'] != BOUND_OVER_GIVEN) {
                 return wrong(place + 1);
             }
-            return terms(place, ownTakes, depth);
+            return parts(place, ownTakes, false, depth);
         }
 
         private int formula(int place, int depth) {
@@ -527,15 +525,15 @@ public final class AdjoinedSets {
             switch (text.at(place)) {
                 case '<':
                 case '=':
-                    end = terms(place, 2, depth);
+                    end = parts(place, 2, false, depth);
                     break;
                 case '!':
-                    end = formulas(place, 1, depth);
+                    end = parts(place, 1, true, depth);
                     break;
                 case '^':
                 case 'v':
                 case '>':
-                    end = formulas(place, 2, depth);
+                    end = parts(place, 2, true, depth);
                     break;
                 case 'E':
                 case 'L':
@@ -549,23 +547,19 @@ public final class AdjoinedSets {
             return end;
         }
 
-        private int terms(int place, int count, int depth) {
+        private int parts(int place, int count, boolean areFormulas, int depth) {
             int end = place + 1;
             for (int k = 0; k < count && end >= 0; k++) {
-                end = term(end, depth + 1);
+                end = part(end, areFormulas, depth);
             }
             return end;
         }
 
-        private int formulas(int place, int count, int depth) {
-            int end = place + 1;
-            for (int k = 0; k < count && end >= 0; k++) {
-                end = formula(end, depth + 1);
-            }
-            return end;
+        private int part(int place, boolean isFormula, int depth) {
+            return isFormula ? formula(place, depth + 1) : term(place, depth + 1);
         }
 
-        private int binder(int place, boolean overFormula, int depth) {
+        private int binder(int place, boolean ofFormula, int depth) {
             int c = text.at(place + 1);
             if (!isLetter(c)) {
                 return wrong(place + 1);
@@ -578,7 +572,7 @@ public final class AdjoinedSets {
             int outside = scope[letter];
             boolean overGiven = text.at(place + 2) == 'a' && scope[0] == FREE;
             scope[letter] = overGiven ? BOUND_OVER_GIVEN : BOUND;
-            int end = overFormula ? formula(second, depth + 1) : term(second, depth + 1);
+            int end = part(second, ofFormula, depth);
             scope[letter] = outside;
             return end;
         }
@@ -595,14 +589,23 @@ public final class AdjoinedSets {
             this.functions = functions;
         }
 
-        void start() {
-            spent = 0;
-        }
-
+        /** What a free letter is, in all that is worked out from now on. */
         void give(int letter, long code) {
             if (letter >= 0 && letter < LETTERS) {
                 values[letter] = code;
             }
+        }
+
+        /** The code of a whole text as a term, or OUT. */
+        long codeOf(Text text) {
+            spent = 0;
+            return term(text, 0, 0, 1);
+        }
+
+        /** 1 when a whole text holds as a formula, 0 when not, or OUT. */
+        int truthOf(Text text) {
+            spent = 0;
+            return formula(text, 0, 0, 1);
         }
 
         private boolean pay(int depth) {
@@ -613,8 +616,7 @@ public final class AdjoinedSets {
             return true;
         }
 
-        /** The code of the term at a place, or OUT. */
-        long codeOf(Text text, int place, int row, int depth) {
+        private long term(Text text, int place, int row, int depth) {
             if (!pay(depth)) {
                 return OUT;
             }
@@ -629,7 +631,7 @@ public final class AdjoinedSets {
                 return given(text, place, row, depth);
             }
             int part = text.firstPartOf(place);
-            long s = codeOf(text, part, row, depth + 1);
+            long s = term(text, part, row, depth + 1);
             if (s < 0) {
                 return OUT;
             }
@@ -641,11 +643,10 @@ public final class AdjoinedSets {
                 case 'T':
                     return allBelow(s);
                 case '{':
-                    return chosen(text, place, s, row, depth);
                 case 'I':
-                    return image(text, place, s, row, depth);
+                    return gathered(text, place, s, row, depth);
                 default:
-                    return joined(c, s, codeOf(text, text.endOf(part), row, depth + 1));
+                    return joined(c, s, term(text, text.endOf(part), row, depth + 1));
             }
         }
 
@@ -655,7 +656,7 @@ public final class AdjoinedSets {
             }
             switch (c) {
                 case '+':
-                    return t < MEMBERS ? s | 1L << t : OUT;
+                    return t < MEMBERS ? s | (1L << t) : OUT;
                 case '|':
                     return s | t;
                 case '&':
@@ -696,43 +697,33 @@ public final class AdjoinedSets {
             return below;
         }
 
-        /** The members of s for which the formula that the operator at a place binds a letter in holds. */
-        private long chosen(Text text, int place, long s, int row, int depth) {
-            int part = text.endOf(place + 2);
+        /** For I what its term is for each member of s; for {, E and L the members for which the formula holds. */
+        private long gathered(Text text, int place, long s, int row, int depth) {
             int letter = letterBoundAt(text, place, row);
             long outside = values[letter];
-            long chosen = 0;
+            long all = 0;
             for (int c = 0; c < MEMBERS && s >> c != 0; c++) {
                 if (isMember(s, c)) {
                     values[letter] = c;
-                    int holds = holds(text, part, row, depth + 1);
-                    if (holds < 0) {
+                    long brought = broughtBy(c, text, place, row, depth);
+                    if (brought < 0) {
                         return OUT;
                     }
-                    chosen |= (long) holds << c;
+                    all |= brought;
                 }
             }
             values[letter] = outside;
-            return chosen;
+            return all;
         }
 
-        private long image(Text text, int place, long s, int row, int depth) {
+        private long broughtBy(int c, Text text, int place, int row, int depth) {
             int part = text.endOf(place + 2);
-            int letter = letterBoundAt(text, place, row);
-            long outside = values[letter];
-            long image = 0;
-            for (int c = 0; c < MEMBERS && s >> c != 0; c++) {
-                if (isMember(s, c)) {
-                    values[letter] = c;
-                    long code = codeOf(text, part, row, depth + 1);
-                    if (code < 0 || code >= MEMBERS) {
-                        return OUT;
-                    }
-                    image |= 1L << code;
-                }
+            if (text.at(place) == 'I') {
+                long code = term(text, part, row, depth + 1);
+                return code >= 0 && code < MEMBERS ? 1L << code : OUT;
             }
-            values[letter] = outside;
-            return image;
+            int truth = formula(text, part, row, depth + 1);
+            return truth >= 0 ? (long) truth << c : OUT;
         }
 
         private static int letterBoundAt(Text text, int place, int row) {
@@ -745,18 +736,17 @@ public final class AdjoinedSets {
             int part = place + 1;
             for (int k = 0; k < function.takes(); k++) {
                 // Terms lie deeper than this one, so functions in them use other rows than this.
-                long code = codeOf(text, part, row, depth + 1);
+                long code = term(text, part, row, depth + 1);
                 if (code < 0) {
                     return OUT;
                 }
                 values[depth * LETTERS + k] = code;
                 part = text.endOf(part);
             }
-            return codeOf(function.body(), 0, depth, depth + 1);
+            return term(function.body(), 0, depth, depth + 1);
         }
 
-        /** 1 when the formula at a place holds, 0 when not, or OUT. */
-        int holds(Text text, int place, int row, int depth) {
+        private int formula(Text text, int place, int row, int depth) {
             if (!pay(depth)) {
                 return OUT;
             }
@@ -773,40 +763,40 @@ public final class AdjoinedSets {
         }
 
         private int compared(Text text, int place, int row, int depth) {
-            long s = codeOf(text, place + 1, row, depth + 1);
+            long s = term(text, place + 1, row, depth + 1);
             if (s < 0) {
                 return OUT;
             }
-            long t = codeOf(text, text.endOf(place + 1), row, depth + 1);
+            long t = term(text, text.endOf(place + 1), row, depth + 1);
             if (t < 0) {
                 return OUT;
             }
-            boolean holds = text.at(place) == '=' ? s == t : s < MEMBERS && isMember(t, (int) s);
-            return holds ? 1 : 0;
+            boolean isSo = text.at(place) == '=' ? s == t : s < MEMBERS && isMember(t, (int) s);
+            return isSo ? 1 : 0;
         }
 
         private int quantified(Text text, int place, int row, int depth) {
-            long s = codeOf(text, place + 2, row, depth + 1);
+            long s = term(text, place + 2, row, depth + 1);
             if (s < 0) {
                 return OUT;
             }
-            long chosen = chosen(text, place, s, row, depth);
+            long chosen = gathered(text, place, s, row, depth);
             if (chosen < 0) {
                 return OUT;
             }
-            boolean holds = text.at(place) == 'E' ? chosen != 0 : chosen == s;
-            return holds ? 1 : 0;
+            boolean quantifierHolds = text.at(place) == 'E' ? chosen != 0 : chosen == s;
+            return quantifierHolds ? 1 : 0;
         }
 
         private int connected(Text text, int place, int row, int depth) {
-            int f = holds(text, place + 1, row, depth + 1);
+            int f = formula(text, place + 1, row, depth + 1);
             if (f < 0) {
                 return OUT;
             }
             if (text.at(place) == '!') {
                 return 1 - f;
             }
-            int g = holds(text, text.endOf(place + 1), row, depth + 1);
+            int g = formula(text, text.endOf(place + 1), row, depth + 1);
             if (g < 0) {
                 return OUT;
             }
@@ -816,7 +806,7 @@ public final class AdjoinedSets {
                 case 'v':
                     return f | g;
                 default:
-                    return 1 - f | g;
+                    return (1 - f) | g;
             }
         }
     }
@@ -863,7 +853,7 @@ public final class AdjoinedSets {
                 return false;
             }
             int c = source.at(place);
-            if (isLetter(c) && (bound >> c - 'a' & 1) == 0 && start[c - 'a'] != STAYS) {
+            if (isLetter(c) && (bound >> (c - 'a') & 1) == 0 && start[c - 'a'] != STAYS) {
                 return termComes(c - 'a', target, bound);
             }
             int part = source.firstPartOf(place);
@@ -888,7 +878,7 @@ public final class AdjoinedSets {
             }
             int from = start[letter];
             int to = terms.endOf(from);
-            if ((terms.freeIn(from, 1) & bound) != 0 || !target.has(next, terms, from, to)) {
+            if ((terms.freeIn(from) & bound) != 0 || !target.has(next, terms, from, to)) {
                 return false;
             }
             next += to - from;
@@ -912,25 +902,25 @@ public final class AdjoinedSets {
         boolean fits(String form) {
             Arrays.fill(start, NONE);
             int place = 0;
-            for (int k = 0; k < form.length(); k++) {
-                char c = form.charAt(k);
-                int from = placeOf(c);
-                if (NAMES.indexOf(c) < 0) {
-                    if (it.at(place) != c) {
-                        return false;
-                    }
-                    place++;
-                } else if (from == NONE) {
-                    start[NAMES.indexOf(c)] = place;
-                    place = endOf(c);
-                } else {
-                    if (!it.has(place, it, from, endOf(c))) {
-                        return false;
-                    }
-                    place += endOf(c) - from;
-                }
+            for (int k = 0; k < form.length() && place != NONE; k++) {
+                place = behind(form.charAt(k), place);
             }
             return place == it.length();
+        }
+
+        /** The place behind what a form's character stands for, or NONE when that does not stand at the place. */
+        private int behind(char c, int place) {
+            int name = NAMES.indexOf(c);
+            if (name < 0) {
+                return it.at(place) == c ? place + 1 : NONE;
+            }
+            if (start[name] == NONE) {
+                start[name] = place;
+                return endOf(c);
+            }
+            int from = start[name];
+            int to = endOf(c);
+            return it.has(place, it, from, to) ? place + to - from : NONE;
         }
 
         /** Where the part with a name stands first. */
@@ -949,7 +939,7 @@ public final class AdjoinedSets {
         }
 
         boolean letterIsFreeIn(char name) {
-            return (it.freeIn(placeOf(name), 1) >> letter() & 1) != 0;
+            return (it.freeIn(placeOf(name)) >> letter() & 1) != 0;
         }
     }
 
@@ -1064,7 +1054,7 @@ public final class AdjoinedSets {
             if (second.at(0) != '>' || !second.has(1, it, 0, it.length())) {
                 return false;
             }
-            int free = it.freeIn(0, 1);
+            int free = it.freeIn(0);
             for (int x = 0; x < LETTERS; x++) {
                 spareBecomesZero();
                 if (givesWithSpare(x, first, 0)) {

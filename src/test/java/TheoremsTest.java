@@ -1,0 +1,111 @@
+/** Promises 8 (what prove refuses), 9 (theorems), 10 (theorem) and 11 (rests). */
+public final class TheoremsTest {
+    private static final int BAD = AdjoinedSets.BAD;
+    private static final int FULL = AdjoinedSets.FULL;
+    private static final int NO = AdjoinedSets.NO;
+
+    public static void main(String[] args) {
+        Check check = new Check();
+        refusesInOrder(check);
+        isFullAtSixteen(check);
+        keepsTexts(check);
+        tellsWhatTheyRestOn(check);
+        check.end("TheoremsTest");
+    }
+
+    private static void refusesInOrder(Check check) {
+        AdjoinedSets x = new AdjoinedSets();
+        int[] rules = {-1, 18, Integer.MIN_VALUE, Integer.MAX_VALUE};
+        for (int rule : rules) {
+            check.prove(x, "=aa", rule, 0, 0, BAD);
+        }
+        for (int rule = 9; rule <= 12; rule++) {
+            check.prove(x, "=aa", rule, 0, 0, BAD);
+        }
+        check.prove(x, "=aa", 1, -7, 99, 0);
+        check.prove(x, "=aa", 9, 0, 1, BAD);
+        check.prove(x, "=aa", 9, 1, 0, BAD);
+        check.prove(x, "=aa", 9, -1, 0, BAD);
+        check.prove(x, "=aa", 9, 0, -1, BAD);
+        check.prove(x, "=aa", 12, 0, 1, BAD);
+        check.prove(x, "=aa", 12, 1, 0, BAD);
+        check.prove(x, "=aa", 12, 0, 0, NO);
+        check.prove(x, "=aa", 10, 1, 0, BAD);
+        check.prove(x, "=aa", 10, 0, 8, BAD);
+        check.prove(x, "=aa", 10, 0, -1, BAD);
+        check.prove(x, "=hh", 10, 0, 7, NO);
+        check.prove(x, "=aa", 11, 1, 0, BAD);
+        check.prove(x, "=aa", 11, 0, 99, NO);
+        check.prove(x, "z", 9, 0, 1, BAD);
+        check.prove(x, "z", 9, 0, 0, -100);
+        check.prove(x, "", 1, 0, 0, -100);
+        check.prove(x, "=a", 1, 0, 0, -102);
+        check.prove(x, "=aa=", 1, 0, 0, -103);
+        check.due("theorems", x.theorems(), 1);
+    }
+
+    private static void isFullAtSixteen(Check check) {
+        AdjoinedSets x = new AdjoinedSets();
+        for (int k = 0; k < 16; k++) {
+            check.due("theorems before " + k, x.theorems(), k);
+            check.prove(x, "=aa", 1, 0, 0, k);
+        }
+        check.prove(x, "=aa", 1, 0, 0, FULL);
+        check.prove(x, "=ab", 1, 0, 0, FULL);
+        check.prove(x, "=a", 1, 0, 0, -102);
+        check.prove(x, "=aa", 18, 0, 0, BAD);
+        check.prove(x, "=aa", 11, 16, 0, BAD);
+        check.due("theorems", x.theorems(), 16);
+        check.due("rests of 15", x.rests(15), 1 << 15);
+        check.due("rests of 16", x.rests(16), BAD);
+        check.due("theorem 16", x.theorem(16, 0), BAD);
+    }
+
+    private static void keepsTexts(Check check) {
+        AdjoinedSets x = new AdjoinedSets();
+        String longest = "!<" + joined(29) + "0";
+        check.due("length of the longest", longest.length(), 60);
+        String[] texts = {"=aa", "!<UTPb0", longest, ">=ab=ab"};
+        int[] rules = {1, 4, 4, 0};
+        for (int k = 0; k < texts.length; k++) {
+            check.prove(x, texts[k], rules[k], 0, 0, k);
+        }
+        for (int i = 0; i < texts.length; i++) {
+            for (int k = 0; k < texts[i].length(); k++) {
+                check.due("theorem(" + i + ", " + k + ")", x.theorem(i, k), texts[i].charAt(k));
+            }
+            check.due("theorem " + i + " behind its end", x.theorem(i, texts[i].length()), BAD);
+            check.due("theorem " + i + " before its start", x.theorem(i, -1), BAD);
+        }
+        check.due("theorem 4", x.theorem(4, 0), BAD);
+        check.due("theorem -1", x.theorem(-1, 0), BAD);
+        check.due("theorem far away", x.theorem(Integer.MAX_VALUE, Integer.MIN_VALUE), BAD);
+        check.due("theorems", x.theorems(), 4);
+    }
+
+    private static String joined(int letters) {
+        return letters == 1 ? "h" : "|" + joined(letters / 2) + joined(letters - letters / 2);
+    }
+
+    private static void tellsWhatTheyRestOn(Check check) {
+        AdjoinedSets x = new AdjoinedSets();
+        check.prove(x, "=bb", 1, 0, 0, 0);
+        check.prove(x, ">=bb>=aa=bb", 0, 0, 0, 1);
+        check.prove(x, ">=aa=bb", 9, 0, 1, 2);
+        check.prove(x, ">=cc=bb", 10, 2, 0, 3);
+        check.prove(x, "><ab<ab", 0, 0, 0, 4);
+        check.prove(x, "Lab<ab", 11, 4, 0, 5);
+        check.prove(x, "v<ab!<ab", 0, 0, 1, 6);
+        check.prove(x, "v<0b!<0b", 10, 6, 0, 7);
+        check.prove(x, ">v<ab!<abv<+acb!<+acb", 0, 0, 0, 8);
+        check.prove(x, "v<ab!<ab", 12, 7, 8, 9);
+        check.prove(x, "v<ab!<ab", 10, 9, 7, 10);
+        int[] rests = {1, 2, 7, 15, 16, 48, 64, 192, 256, 960, 1984};
+        for (int i = 0; i < rests.length; i++) {
+            check.due("rests of " + i, x.rests(i), rests[i]);
+        }
+        check.due("rests of 11", x.rests(11), BAD);
+        check.due("rests of -1", x.rests(-1), BAD);
+        check.due("rests far away", x.rests(Integer.MAX_VALUE), BAD);
+    }
+}
