@@ -110,7 +110,10 @@ public final class AdjoinedSets {
         }
         int answer = reader.readFormula();
         if (answer >= 0) {
-            answer = becomeTheorem(rule, i, j);
+            answer = FULL;
+            if (laws.count() < MOST_THEOREMS) {
+                answer = rules.allow(rule, i, j) ? laws.add(buffer, restsByRule(rule, i, j)) : NO;
+            }
         }
         buffer.empty();
         return answer;
@@ -137,7 +140,7 @@ public final class AdjoinedSets {
         }
         int answer = reader.readFormula();
         if (answer >= 0) {
-            int free = buffer.freeIn(0);
+            int free = buffer.freeIn(0, 1);
             answer = Integer.bitCount(free) > 2 ? BAD : firstRefuting(free, k);
         }
         buffer.empty();
@@ -194,16 +197,6 @@ public final class AdjoinedSets {
             default:
                 return true;
         }
-    }
-
-    private int becomeTheorem(int rule, int i, int j) {
-        if (laws.count() >= MOST_THEOREMS) {
-            return FULL;
-        }
-        if (!rules.allow(rule, i, j)) {
-            return NO;
-        }
-        return laws.add(buffer, restsByRule(rule, i, j));
     }
 
     private int restsByRule(int rule, int i, int j) {
@@ -326,12 +319,8 @@ public final class AdjoinedSets {
             return true;
         }
 
-        /** The letters (a as 1, b as 2, c as 4 ..) that are free in the part at a place. */
-        int freeIn(int place) {
-            return freeFrom(place, 1);
-        }
-
-        private int freeFrom(int place, int depth) {
+        /** The letters (a as 1, b as 2, c as 4 ..) that are free in the part at a place; depth is 1 for the caller. */
+        int freeIn(int place, int depth) {
             int c = at(place);
             if (isLetter(c)) {
                 return 1 << (c - 'a');
@@ -340,7 +329,7 @@ public final class AdjoinedSets {
             int part = firstPartOf(place);
             int end = endOf(place);
             for (int k = 0; k < MOST_TAKEN && part < end && depth < DEEPEST; k++) {
-                int inPart = freeFrom(part, depth + 1);
+                int inPart = freeIn(part, depth + 1);
                 free |= k == 1 ? inPart & ~boundBy(place) : inPart;
                 part = endOf(part);
             }
@@ -831,6 +820,12 @@ public final class AdjoinedSets {
             Arrays.fill(start, STAYS);
         }
 
+        /** As begin, but for one letter. */
+        void beginWith(Text text, int letter, int place) {
+            begin(text);
+            put(letter, place);
+        }
+
         void put(int letter, int place) {
             if (letter >= 0 && letter < LETTERS) {
                 start[letter] = place;
@@ -878,7 +873,7 @@ public final class AdjoinedSets {
             }
             int from = start[letter];
             int to = terms.endOf(from);
-            if ((terms.freeIn(from) & bound) != 0 || !target.has(next, terms, from, to)) {
+            if ((terms.freeIn(from, 1) & bound) != 0 || !target.has(next, terms, from, to)) {
                 return false;
             }
             next += to - from;
@@ -939,7 +934,7 @@ public final class AdjoinedSets {
         }
 
         boolean letterIsFreeIn(char name) {
-            return (it.freeIn(placeOf(name)) >> letter() & 1) != 0;
+            return (it.freeIn(placeOf(name), 1) >> letter() & 1) != 0;
         }
     }
 
@@ -1026,8 +1021,7 @@ public final class AdjoinedSets {
 
         /** Whether G is F with the named term for x. */
         private boolean isReplacedBy(char name) {
-            replacement.begin(it);
-            replacement.put(form.letter(), form.placeOf(name));
+            replacement.beginWith(it, form.letter(), form.placeOf(name));
             return replacement.gives(it, form.placeOf('F'), it, form.placeOf('G'), form.endOf('G'));
         }
 
@@ -1054,26 +1048,21 @@ public final class AdjoinedSets {
             if (second.at(0) != '>' || !second.has(1, it, 0, it.length())) {
                 return false;
             }
-            int free = it.freeIn(0);
+            int free = it.freeIn(0, 1);
             for (int x = 0; x < LETTERS; x++) {
                 spareBecomesZero();
-                if (givesWithSpare(x, first, 0)) {
-                    for (int y = 0; y < LETTERS; y++) {
-                        spareBecomesAdjoined(x, y);
-                        if (y != x && (free >> y & 1) == 0 && givesWithSpare(x, second, rest)) {
-                            return true;
-                        }
+                replacement.beginWith(spare, x, 0);
+                boolean holdsForZero = replacement.gives(it, 0, first, 0, first.length());
+                for (int y = 0; y < LETTERS && holdsForZero; y++) {
+                    spareBecomesAdjoined(x, y);
+                    replacement.beginWith(spare, x, 0);
+                    boolean mayBeAdjoined = y != x && (free >> y & 1) == 0;
+                    if (mayBeAdjoined && replacement.gives(it, 0, second, rest, second.length())) {
+                        return true;
                     }
                 }
             }
             return false;
-        }
-
-        /** Whether the buffer with the spare term for a letter is what a theorem has from a place on. */
-        private boolean givesWithSpare(int letter, Text target, int from) {
-            replacement.begin(spare);
-            replacement.put(letter, 0);
-            return replacement.gives(it, 0, target, from, target.length());
         }
 
         private void spareBecomesZero() {
