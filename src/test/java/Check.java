@@ -16,33 +16,37 @@ final class Check {
     }
 
     void eval(AdjoinedSets x, String term, long want) {
-        type(x, term);
+        typeWhole(x, term);
         due("eval of " + term, x.eval(), want);
         due("buffer after eval of " + term, x.clear(), 0);
     }
 
     void truth(AdjoinedSets x, String formula, int want) {
-        type(x, formula);
+        typeWhole(x, formula);
         due("truth of " + formula, x.truth(), want);
         due("buffer after truth of " + formula, x.clear(), 0);
     }
 
     void define(AdjoinedSets x, int f, int n, String body, int want) {
-        type(x, body);
+        typeWhole(x, body);
         due("define(" + f + ", " + n + ") of " + body, x.define(f, n), want);
         due("buffer after define of " + body, x.clear(), want == AdjoinedSets.BAD ? body.length() : 0);
     }
 
     void prove(AdjoinedSets x, String formula, int rule, int i, int j, int want) {
-        type(x, formula);
+        typeWhole(x, formula);
         due("prove(" + rule + ", " + i + ", " + j + ") of " + formula, x.prove(rule, i, j), want);
         due("buffer after prove of " + formula, x.clear(), want == AdjoinedSets.BAD ? formula.length() : 0);
     }
 
     void refute(AdjoinedSets x, String formula, int k, int want) {
-        type(x, formula);
+        typeWhole(x, formula);
         due("refute(" + k + ") of " + formula, x.refute(k), want);
         due("buffer after refute of " + formula, x.clear(), k < 1 || k > 8 ? formula.length() : 0);
+    }
+
+    private void typeWhole(AdjoinedSets x, String text) {
+        due("characters in the buffer for " + text, type(x, text), text.length());
     }
 
     /** Types a text of any length, eight characters a call. */

@@ -6,8 +6,6 @@ public final class DefineTest {
         Check check = new Check();
         givesLetters(check);
         endsRecursion(check);
-        refusesOtherRecursion(check);
-        refusesFreeLetters(check);
         refusesWrongInputs(check);
         check.end("DefineTest");
     }
@@ -63,58 +61,6 @@ public final class DefineTest {
         for (String body : two) {
             check.define(new AdjoinedSets(), 0, 2, body, 0);
         }
-    }
-
-    private static void refusesOtherRecursion(Check check) {
-        AdjoinedSets x = new AdjoinedSets();
-        check.define(x, 0, 1, "A", -101);
-        check.define(x, 0, 1, "A0", -101);
-        check.define(x, 0, 1, "Aa", -101);
-        check.define(x, 0, 1, "Ab", -101);
-        check.define(x, 0, 1, "Ib0Ab", -104);
-        check.define(x, 0, 1, "IbaAa", -104);
-        check.define(x, 0, 1, "IbaA+bb", -104);
-        check.define(x, 0, 1, "IbaAAb", -104);
-        check.define(x, 0, 1, "IbaA", -104);
-        check.define(x, 0, 1, "IbUaAb", -105);
-        check.define(x, 0, 1, "Ib+aaAb", -106);
-        check.define(x, 0, 1, "IbaIbbAb", -107);
-        check.define(x, 0, 1, "IbaIcbAc", -107);
-        check.define(x, 0, 1, "IbaIb0Ab", -107);
-        check.define(x, 0, 1, "IaPaIbaAb", -108);
-        check.define(x, 0, 1, "IaaIbaAb", -107);
-        check.define(x, 0, 1, "IbAbb", -103);
-        check.define(x, 0, 1, "|IbaAbAb", -107);
-        check.define(x, 0, 2, "IcbAca", -104);
-        check.define(x, 0, 2, "IcaAcAbb", -106);
-        check.define(x, 0, 2, "IcaAc", -105);
-        check.define(x, 0, 1, "B0", -100);
-        check.define(x, 1, 1, "|aAa", -102);
-        check.eval(x, "A0", -100);
-        check.define(x, 0, 1, "UUUUUUUUUUAb", -111);
-        check.define(x, 0, 1, "UUUUUUUUUUIbaAb", -114);
-        check.define(x, 0, 1, "UUUUUUUUUUUIbaAb", -113);
-        check.define(x, 0, 1, "UUUUUUUUUIbaUAb", -114);
-        check.define(x, 0, 1, "UUUUUUUUUIbaAb", 0);
-    }
-
-    private static void refusesFreeLetters(Check check) {
-        AdjoinedSets x = new AdjoinedSets();
-        check.define(x, 0, 1, "b", -100);
-        check.define(x, 0, 1, "h", -100);
-        check.define(x, 0, 2, "c", -100);
-        check.define(x, 0, 3, "d", -100);
-        check.define(x, 0, 2, "|b|ac", -104);
-        check.define(x, 0, 1, "|Ib0bb", -105);
-        check.define(x, 0, 1, "Ibbb", -102);
-        check.define(x, 0, 1, "+bz", -101);
-        check.define(x, 0, 1, "+zb", -101);
-        check.define(x, 0, 1, "+ab0", -102);
-        check.define(x, 0, 3, "+ab0", -103);
-        check.define(x, 0, 1, "", -100);
-        check.define(x, 0, 1, "=00", -100);
-        check.define(x, 0, 1, "{ba=bd", -105);
-        check.define(x, 0, 3, "|a|bc", 0);
     }
 
     private static void refusesWrongInputs(Check check) {

@@ -9,9 +9,6 @@ public final class EvalTest {
         goesUpAndDown(check);
         bindsLetters(check);
         tellsWrongPlaces(check);
-        readsTwelveDeep(check);
-        spendsAtMost3000(check);
-        opensAtMost32(check);
         check.end("EvalTest");
     }
 
@@ -126,98 +123,5 @@ public final class EvalTest {
         check.eval(x, "Ib0=00", -103);
         check.eval(x, "Ib000", -104);
         check.eval(x, "+~#", -101);
-    }
-
-    private static void readsTwelveDeep(Check check) {
-        AdjoinedSets x = new AdjoinedSets();
-        String eleven = "UUUUUUUUUUU";
-        check.eval(x, eleven + "0", 0);
-        check.eval(x, eleven + "U0", -112);
-        check.eval(x, eleven + "U", -112);
-        check.eval(x, eleven + "+00", -112);
-        check.eval(x, eleven + "{", -112);
-        check.eval(x, eleven + "{0", -112);
-        check.eval(x, eleven + "{b0=00", -113);
-        check.eval(x, "+0" + eleven + "0", -113);
-        check.eval(x, "+" + eleven.substring(1) + "00", 1);
-        check.eval(x, eleven.substring(1) + "{b0=00", -114);
-        check.define(x, 0, 1, "a", 0);
-        check.eval(x, eleven.substring(1) + "A0", 0);
-        check.eval(x, eleven + "A0", -112);
-    }
-
-    private static void spendsAtMost3000(Check check) {
-        AdjoinedSets x = new AdjoinedSets();
-        x.let(2, (1L << 46) - 1);
-        x.let(3, MOST);
-        x.let(4, (1L << 51) - 1);
-        // 2 + 46 * (2 + 62) is 2946, 2 + 51 is 53, and | costs 1.
-        check.eval(x, "|IacIbd0Iae0", 3);
-        x.let(4, (1L << 52) - 1);
-        check.eval(x, "|IacIbd0Iae0", OUT);
-        check.define(x, 0, 1, "1", 0);
-        x.let(4, (1L << 49) - 1);
-        // A0 costs 3: itself, what it is given, and its body.
-        check.eval(x, "|A0|IacIbd0Iae0", OUT);
-        x.let(4, (1L << 47) - 1);
-        check.eval(x, "|A0|IacIbd0Iae0", 3);
-        x.let(4, (1L << 48) - 1);
-        check.eval(x, "|A0|IacIbd0Iae0", OUT);
-        check.eval(x, "Iac0", 1);
-    }
-
-    private static void opensAtMost32(Check check) {
-        AdjoinedSets x = new AdjoinedSets();
-        check.define(x, 0, 1, "UUUUUUUUUUUa", 0);
-        check.define(x, 1, 1, "UUUUUUUUUUAa", 0);
-        check.define(x, 2, 1, "UUUUUUUBa", 0);
-        check.define(x, 3, 1, "UUUUUUUUBa", 0);
-        check.eval(x, "C0", 0);
-        check.eval(x, "D0", OUT);
-        check.eval(x, "UC0", OUT);
-        check.eval(x, "Ib0UC0", 0);
-        eachPartIsOneDeeper(check);
-    }
-
-    private static void eachPartIsOneDeeper(Check check) {
-        AdjoinedSets x = new AdjoinedSets();
-        check.define(x, 0, 1, "UUUUUUUUUUUa", 0);
-        check.define(x, 1, 1, "UUUUUUUUUUAa", 0);
-        check.define(x, 2, 1, "UUUUUUBa", 0);
-        check.define(x, 3, 2, "a", 0);
-        // 31 are open in C0 when it stands alone.
-        String[] terms = {"+0C0", "+C00", "-0C0", "|C00", "&0C0", "PC0", "TC0", "Ib1C0", "IbC0b", "{bC0=bb", "DC00", "D0C0"};
-        for (String term : terms) {
-            check.eval(x, "&0" + term, OUT);
-            check.eval(x, "U" + term, OUT);
-        }
-        check.eval(x, "+0C0", 1);
-        check.eval(x, "+C00", 1);
-        check.eval(x, "-0C0", 0);
-        check.eval(x, "PC0", 1);
-        check.eval(x, "Ib1C0", 1);
-        check.eval(x, "IbC0b", 0);
-        check.eval(x, "{bC0=bb", 0);
-        check.eval(x, "DC00", 0);
-        check.eval(x, "D0C0", 0);
-        check.truth(x, "=0C0", 1);
-        check.truth(x, "<C00", 0);
-        check.truth(x, "EbC0=00", 0);
-        check.truth(x, "!=0C0", OUT);
-        check.truth(x, "Lb1=0C0", OUT);
-        // Here 30 are.
-        AdjoinedSets y = new AdjoinedSets();
-        check.define(y, 0, 1, "UUUUUUUUUUUa", 0);
-        check.define(y, 1, 1, "UUUUUUUUUUAa", 0);
-        check.define(y, 2, 1, "UUUUUBa", 0);
-        check.eval(y, "{b1=0C0", 1);
-        check.truth(y, "Lb1=0C0", 1);
-        check.truth(y, "Eb1=C00", 1);
-        check.truth(y, "!=0C0", 0);
-        check.truth(y, "^=00=0C0", 1);
-        check.truth(y, "v=0C0=00", 1);
-        check.truth(y, "!!=0C0", OUT);
-        check.truth(y, "!Lb1=0C0", OUT);
-        check.eval(y, "{b1!=0C0", OUT);
     }
 }

@@ -2,8 +2,9 @@ import java.util.Random;
 
 /** All promises: many runs of calls, made up from fixed seeds, on the program and on the model side by side. */
 public final class ReferenceTest {
-    private static final int RUNS = 400;
-    private static final int CALLS = 110;
+    private static final int RUNS = 800;
+    // An object is used for at most 512 calls: one act makes 30 at most, comparing the theorems some 110.
+    private static final int CALLS_BEFORE_LAST_ACT = 360;
 
     private final Check check = new Check();
     private final Random random;
@@ -14,6 +15,7 @@ public final class ReferenceTest {
     private String typed = "";
     private char ownName = 0;
     private int ownTakes = 0;
+    private int calls = 0;
 
     private ReferenceTest(int run) {
         this.run = run;
@@ -24,7 +26,7 @@ public final class ReferenceTest {
         int runs = args.length > 0 ? Integer.parseInt(args[0]) : RUNS;
         for (int run = 0; run < runs; run++) {
             ReferenceTest test = new ReferenceTest(run);
-            for (int k = 0; k < CALLS; k++) {
+            while (test.calls < CALLS_BEFORE_LAST_ACT) {
                 test.act();
             }
             test.compareTheorems();
@@ -34,6 +36,7 @@ public final class ReferenceTest {
     }
 
     private void same(String call, long got, long want) {
+        calls++;
         check.due("run " + run + ": " + call + " with " + typed, got, want);
     }
 
@@ -240,7 +243,9 @@ public final class ReferenceTest {
         same("theorems()", program.theorems(), model.theorems());
         for (int i = -1; i <= 16; i++) {
             same("rests(" + i + ")", program.rests(i), model.rests(i));
-            for (int k = -1; k <= 60; k++) {
+            int length = i >= 0 && i < model.theorems() ? model.lawText(i).length() : 0;
+            int[] places = {-1, random.nextInt(60), length - 1, length, 60};
+            for (int k : places) {
                 same("theorem(" + i + ", " + k + ")", program.theorem(i, k), model.theorem(i, k));
             }
         }

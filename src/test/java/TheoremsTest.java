@@ -10,6 +10,8 @@ public final class TheoremsTest {
         isFullAtSixteen(check);
         keepsTexts(check);
         tellsWhatTheyRestOn(check);
+        restOnNoOthers(check);
+        restOnAllInAChain(check);
         check.end("TheoremsTest");
     }
 
@@ -76,11 +78,50 @@ public final class TheoremsTest {
             }
             check.due("theorem " + i + " behind its end", x.theorem(i, texts[i].length()), BAD);
             check.due("theorem " + i + " before its start", x.theorem(i, -1), BAD);
+            check.due("theorem " + i + " at 59", x.theorem(i, 59), texts[i].length() == 60 ? '0' : BAD);
+            check.due("theorem " + i + " at 60", x.theorem(i, 60), BAD);
+            check.due("theorem " + i + " far behind", x.theorem(i, Integer.MAX_VALUE), BAD);
+            check.due("theorem " + i + " far before", x.theorem(i, Integer.MIN_VALUE), BAD);
         }
         check.due("theorem 4", x.theorem(4, 0), BAD);
         check.due("theorem -1", x.theorem(-1, 0), BAD);
         check.due("theorem far away", x.theorem(Integer.MAX_VALUE, Integer.MIN_VALUE), BAD);
         check.due("theorems", x.theorems(), 4);
+    }
+
+    /** "those that its rule named": not those whose numbers the rule does not look at, or looks at as letters. */
+    private static void restOnNoOthers(Check check) {
+        AdjoinedSets x = new AdjoinedSets();
+        check.prove(x, "><bc<bc", 0, 0, 0, 0);
+        check.prove(x, "=aa", 1, 0, 0, 1);
+        check.prove(x, "!<a0", 4, 1, 0, 2);
+        check.prove(x, "Lbc<bc", 11, 0, 1, 3);
+        check.prove(x, "><0c<0c", 10, 0, 1, 4);
+        check.prove(x, ">=aav=aa=bb", 0, 3, 4, 5);
+        check.prove(x, "v=aa=bb", 9, 1, 5, 6);
+        check.prove(x, "v=00=bb", 10, 6, 0, 7);
+        int[] rests = {1, 2, 4, 9, 17, 32, 98, 226};
+        for (int i = 0; i < rests.length; i++) {
+            check.due("rests of " + i, x.rests(i), rests[i]);
+        }
+    }
+
+    /** ".. what they rest on, and itself": all sixteen at last. */
+    private static void restOnAllInAChain(Check check) {
+        AdjoinedSets x = new AdjoinedSets();
+        check.due("rests of 0 before", x.rests(0), BAD);
+        check.prove(x, "=aa", 1, 0, 0, 0);
+        for (int i = 1; i < 16; i++) {
+            check.prove(x, "=aa", 10, i - 1, 0, i);
+            check.due("rests of " + (i + 1) + " before", x.rests(i + 1), BAD);
+        }
+        for (int i = 0; i < 16; i++) {
+            check.due("rests of " + i, x.rests(i), (2 << i) - 1);
+        }
+        check.due("rests of 16", x.rests(16), BAD);
+        check.due("rests of 32", x.rests(32), BAD);
+        check.due("rests of -1", x.rests(-1), BAD);
+        check.due("rests of the least", x.rests(Integer.MIN_VALUE), BAD);
     }
 
     private static String joined(int letters) {

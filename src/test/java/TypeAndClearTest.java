@@ -6,6 +6,7 @@ public final class TypeAndClearTest {
         lowestBytesAlone(check);
         refusesWrongInputs(check);
         isFullAtSixty(check);
+        fillsUpWithEachNumber(check);
         check.end("TypeAndClearTest");
     }
 
@@ -48,8 +49,25 @@ public final class TypeAndClearTest {
         }
         check.due("the buffer stays", x.type('4', 1), 3);
         check.due("eval of +14", x.eval(), 17);
-        check.due("type of 33", x.type(33, 1), 1);
-        check.due("type of 126", x.type(126, 1), 2);
+        eachPlaceIsLookedAt(check);
+    }
+
+    /** "BAD when .. one is not 33 .. 126": each of the n, at each place; and all from 33 to 126 are typed. */
+    private static void eachPlaceIsLookedAt(Check check) {
+        int[] wrong = {0, 32, 127, 128, 255};
+        for (int n = 1; n <= 8; n++) {
+            AdjoinedSets x = new AdjoinedSets();
+            for (int place = 0; place < n; place++) {
+                long others = Check.packed("33333333") & ~(255L << (8 * place));
+                for (int c : wrong) {
+                    check.due("character " + c + " at " + place + " of " + n, x.type(others | (long) c << (8 * place), n), AdjoinedSets.BAD);
+                }
+            }
+            check.due("the buffer stays empty", x.clear(), 0);
+        }
+        for (int c = 0; c <= 255; c++) {
+            check.due("type of " + c, new AdjoinedSets().type(c, 1), c >= 33 && c <= 126 ? 1 : AdjoinedSets.BAD);
+        }
     }
 
     private static void isFullAtSixty(Check check) {
@@ -63,5 +81,19 @@ public final class TypeAndClearTest {
         check.due("one more", x.type('U', 1), AdjoinedSets.FULL);
         check.due("clear of 60", x.clear(), 60);
         check.due("type after clear", x.type('U', 1), 1);
+    }
+
+    /** "FULL when there would be more than 60": 60 with each n, and 61. */
+    private static void fillsUpWithEachNumber(Check check) {
+        for (int n = 1; n <= 8; n++) {
+            AdjoinedSets x = new AdjoinedSets();
+            Check.type(x, "U".repeat(60 - n));
+            check.due("type of " + n + " up to 60", x.type(Check.packed("U".repeat(n)), n), 60);
+            check.due("clear of 60", x.clear(), 60);
+            Check.type(x, "U".repeat(61 - n));
+            check.due("type of " + n + " up to 61", x.type(Check.packed("U".repeat(n)), n), AdjoinedSets.FULL);
+            check.due("clear of " + (61 - n), x.clear(), 61 - n);
+            check.due("type of " + n + " behind nothing", x.type(Check.packed("U".repeat(n)), n), n);
+        }
     }
 }
