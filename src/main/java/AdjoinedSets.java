@@ -1050,12 +1050,11 @@ public final class AdjoinedSets {
             }
             int free = it.freeIn(0, 1);
             for (int x = 0; x < LETTERS; x++) {
-                spareBecomesZero();
                 replacement.beginWith(spare, x, 0);
+                spareBecomesZero();
                 boolean holdsForZero = replacement.gives(it, 0, first, 0, first.length());
                 for (int y = 0; y < LETTERS && holdsForZero; y++) {
                     spareBecomesAdjoined(x, y);
-                    replacement.beginWith(spare, x, 0);
                     boolean mayBeAdjoined = y != x && (free >> y & 1) == 0;
                     if (mayBeAdjoined && replacement.gives(it, 0, second, rest, second.length())) {
                         return true;

@@ -18,6 +18,7 @@ public final class CodesEdgeTest {
         test.outAnywhereIsOut();
         test.outIsNotWhatIsNotWorkedOut();
         test.greatSetsAreInNone();
+        test.eachMemberIsFound();
         test.lettersAreEight();
         test.lettersAreEmptyAtFirst();
         test.check.end("CodesEdgeTest");
@@ -135,9 +136,6 @@ public final class CodesEdgeTest {
     private void outAnywhereIsOut() {
         AdjoinedSets x = new AdjoinedSets();
         x.let(7, 62);
-        check.define(x, 0, 1, "0", 0);
-        check.define(x, 1, 1, "Ph", -101);
-        check.define(x, 1, 2, "Pb", 0);
         String[] terms = {"+0Ph", "+Ph0", "|0Ph", "|Ph0", "&0Ph", "&Ph0", "-0Ph", "-Ph0", "-PhPh", "UPh", "PPh", "TPh",
             "{bPh=00", "{b1=Ph0", "{b1=0Ph", "IbPh0", "Ib1Ph", "APh", "B0h", "BPh0", "U&0Ph", "{b3=+0-hb0"};
         for (String term : terms) {
@@ -181,6 +179,33 @@ public final class CodesEdgeTest {
             y.let(7, MOST);
             y.let(0, code);
             check.truth(y, "<ah", 0);
+        }
+    }
+
+    /** "their members' codes are 0 .. 61": each of them is found where it is the only member, or the only one that is none. */
+    private void eachMemberIsFound() {
+        for (int c = 0; c <= 61; c++) {
+            AdjoinedSets x = new AdjoinedSets();
+            x.let(0, 1L << c);
+            x.let(1, c);
+            x.let(2, MOST - (1L << c));
+            check.eval(x, "Iddd", 0);
+            check.eval(x, "Idad", 1L << c);
+            check.eval(x, "Idcd", MOST - (1L << c));
+            check.eval(x, "{da=db", 1L << c);
+            check.eval(x, "{dc=db", 0);
+            check.truth(x, "Eda=db", 1);
+            check.truth(x, "Edc=db", 0);
+            check.truth(x, "Lda=db", 1);
+            check.truth(x, "Lda!=db", 0);
+            check.truth(x, "Ldc!=db", 1);
+            check.eval(x, "Ua", c);
+            check.truth(x, "=Taa", c == 0 ? 1 : 0);
+            check.truth(x, "=Ta|aTb", 1);
+            check.eval(x, "+cb", MOST);
+            check.eval(x, "|ca", MOST);
+            check.eval(x, "&ca", 0);
+            check.eval(x, "-ac", 1L << c);
         }
     }
 

@@ -74,6 +74,14 @@ public final class ReplacementEdgeTest {
         comes("^Ec0=cc=cc", "a", "^Ec0=cc=cc", false);
         comes("^=ccLc0=cc", "a", "^=aaLc0=cc", true);
         comes("Ed0Ec0=cc", "a", "Ed0Ec0=cc", true);
+        // Bound twice, it is bound still.
+        comes("Ec0Ec0=cc", "a", "Ec0Ec0=cc", true);
+        comes("Ec0Ec0=cc", "a", "Ec0Ec0=aa", false);
+        comes("Ec0^Lc0=cc=cc", "a", "Ec0^Lc0=cc=cc", true);
+        comes("Ec0^Lc0=cc=cc", "a", "Ec0^Lc0=cc=aa", false);
+        comes("Ec0={cc=cc0", "a", "Ec0={cc=cc0", true);
+        comes("Ec0={cc=cc0", "a", "Ec0={ca=cc0", false);
+        comesForSome("Ec0Ec0=cc", "Ec0Ec0=aa", false);
         comesForSome("Ecc=cc", "EcPa=cc", true);
         comesForSome("Ec0=cc", "Ec0=cc", true);
         comesForSome("Ec0=cc", "Ec0=aa", false);
@@ -94,7 +102,8 @@ public final class ReplacementEdgeTest {
 
     /** "there is none such if one of them stands where a free letter of t is bound": by each of {, I, E and L. */
     private void noneWhereAFreeLetterWouldBeBound() {
-        String[] formulas = {"Ed0=cd", "Ld0=dc", "={d0=cc0", "=Id0c0", "Ea0Ed0=cd", "Ed0Ea0=cd", "!^=00Ed0<0c", "Ld0Eac=aa"};
+        String[] formulas = {"Ed0=cd", "Ld0=dc", "={d0=cc0", "=Id0c0", "Ea0Ed0=cd", "Ed0Ea0=cd", "!^=00Ed0<0c", "Ld0Eac=aa",
+            "Ed0Ed0=cd", "Ed0^Ld0=00=0c"};
         String[] captured = {"d", "+dd", "+bd", "Ud", "{ad=aa", "{a0=ad", "Ia0d", "|{d0=ddd"};
         String[] notCaptured = {"b", "e", "0", "+ef", "{d0=dd", "Id0d", "{db=dd", "{ae=aa"};
         for (String f : formulas) {

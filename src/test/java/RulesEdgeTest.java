@@ -8,6 +8,16 @@ public final class RulesEdgeTest {
         ">^Lca<cbLcb<ca=ab", ">Lcb=cd><ab=ad", "><a{cb=cd^<ab=ad", ">^<ab=ad<a{cb=cd", ">Eab=ac!Lab!=ac",
         ">!Lab!=acEab=ac"};
 
+    // For each rule 0 to 17, a formula that it allows with the theorems of nothingIsLeftOver, and one that it does not.
+    private static final String[] RIGHT = {"v<ab!<ab", "=cc", ">=cd><ce<de", ">=cd><ec<ed", "!<c0", "><e+cdv<ec=ed",
+        ">v<ec=ed<e+cd", ">^Lec<edLed<ec=cd", ">Lcd=ce><fd=fe", "v=ab><fg<fg", "><0g<0g", "Lfg<fg", "v<ab!<ab", "=Adh{ch=cd",
+        "><f{dc=de^<fc=fe", ">^<fc=fe<f{dc=de", ">Ebd=bc!Lbd!=bc", ">!Lbd!=bcEbd=bc"};
+    private static final String[] NOT_RIGHT = {"v<ab!<ba", "=cd", ">=cd><ce<dc", ">=cd><ec<dd", "!<cc", "><e+cdv<ed=ec",
+        ">v<ec=ed<e+dc", ">^Lcc<cdLcd<cc=cd", ">Lcd=ce><fd=fc", "v=ab><fg<ff", "><0g<1g", "Lfg<gf", "v<bb!<bb", "=Ach{ch=cc",
+        "><f{dc=de^<fc=de", ">^<fc=de<f{dc=de", ">Ebd=bc!Lbd=bc", ">!Lbd!=bcEbd=bb"};
+    private static final int[] NAMED_I = {0, 0, 0, 0, 0, 0, 0, 0, 0, 2, 2, 2, 0, 0, 0, 0, 0, 0};
+    private static final int[] NAMED_J = {0, 0, 0, 0, 0, 0, 0, 0, 0, 3, 5, 0, 1, 0, 0, 0, 0, 0};
+
     private final Check check = new Check();
 
     public static void main(String[] args) {
@@ -28,6 +38,7 @@ public final class RulesEdgeTest {
         test.inductionWantsBothTheorems();
         test.unfoldingWantsTheBody();
         test.unusedNumbersAreAny();
+        test.nothingIsLeftOver();
         test.check.end("RulesEdgeTest");
     }
 
@@ -346,6 +357,11 @@ public final class RulesEdgeTest {
             String it = "vv<ab<cd!v<ab<cd";
             induces(it, it.replace('a', '0'), ">" + it + it.replace("a", "+a" + y), y > 'd');
         }
+        // c is free in the second part alone, and in the first alone.
+        induces("><ab>=cc<ab", "><0b>=cc<0b", ">><ab>=cc<ab><+acb>=cc<+acb", false);
+        induces("><ab>=cc<ab", "><0b>=cc<0b", ">><ab>=cc<ab><+adb>=cc<+adb", true);
+        induces(">^=cc<ab<ab", ">^=cc<0b<0b", ">>^=cc<ab<ab>^=cc<+acb<+acb", false);
+        induces(">^=cc<ab<ab", ">^=cc<0b<0b", ">>^=cc<ab<ab>^=cc<+adb<+adb", true);
         induces("vEca=cd!Eca=cd", "vEc0=cd!Ec0=cd", ">vEca=cd!Eca=cdvEc+ac=cd!Ec+ac=cd", true);
         induces("vEca=cd!Eca=cd", "vEc0=cd!Ec0=cd", ">vEca=cd!Eca=cdvEc+ad=cd!Ec+ad=cd", false);
         induces("vEca=cd!Eca=cd", "vEca=c0!Eca=c0", ">vEca=cd!Eca=cdvEca=c+dc!Eca=c+dc", false);
@@ -439,5 +455,31 @@ public final class RulesEdgeTest {
             check.prove(x, "Lab<ab", 11, 2, i, BAD);
             check.prove(x, "Lab<ab", 11, -1, i, BAD);
         }
+    }
+
+    /** A rule looks at the buffer and the theorems that it names, not at what another call looked at before. */
+    private void nothingIsLeftOver() {
+        for (int first = 0; first <= 17; first++) {
+            for (int second = 0; second <= 17; second++) {
+                AdjoinedSets x = new AdjoinedSets();
+                check.define(x, 0, 2, "{cb=ca", 0);
+                check.prove(x, "v<0b!<0b", 0, 0, 0, 0);
+                check.prove(x, ">v<ab!<abv<+aeb!<+aeb", 0, 0, 0, 1);
+                check.prove(x, "><fg<fg", 0, 0, 0, 2);
+                check.prove(x, ">><fg<fg=fg", 0, 0, 0, NO);
+                check.prove(x, ">><fg<fgv=ab><fg<fg", 0, 0, 0, 3);
+                check.prove(x, RIGHT[first], first, NAMED_I[first], NAMED_J[first], 4);
+                check.prove(x, NOT_RIGHT[second], second, NAMED_I[second], NAMED_J[second], NO);
+                check.prove(x, RIGHT[second], second, NAMED_I[second], NAMED_J[second], 5);
+                check.prove(x, NOT_RIGHT[first], first, NAMED_I[first], NAMED_J[first], NO);
+                check.prove(x, RIGHT[first], first, NAMED_I[first], NAMED_J[first], 6);
+            }
+        }
+        AdjoinedSets x = new AdjoinedSets();
+        // Each of them has six parts, at other places than those of the one before.
+        check.prove(x, "v=01v=02v=03v=04v=05v=06!=01", 0, 0, 0, 0);
+        check.prove(x, "v!=11v=12v=13v=14v=15v=16=11", 0, 0, 0, 1);
+        check.prove(x, "vv=1av=2av=3av=4av=5a!=6a=6a", 0, 0, 0, 2);
+        check.prove(x, "v=Uabv=2av=3av=4av=5av!=6a=6a", 0, 0, 0, 3);
     }
 }

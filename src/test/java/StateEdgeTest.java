@@ -8,7 +8,7 @@ public final class StateEdgeTest {
     private static final int FULL = AdjoinedSets.FULL;
     private static final int OUT = AdjoinedSets.OUT;
     private static final int NO = AdjoinedSets.NO;
-    // 9 | 2^3 | 2^1 with h being 10: what the term in the buffer is.
+    // h is 10 in each scenario.
     private static final String TERM = "|9h";
     private static final long TERM_IS = 11;
 

@@ -12,6 +12,7 @@ public final class TheoremsTest {
         tellsWhatTheyRestOn(check);
         restOnNoOthers(check);
         restOnAllInAChain(check);
+        restOnWhatBothRestOn(check);
         check.end("TheoremsTest");
     }
 
@@ -122,6 +123,26 @@ public final class TheoremsTest {
         check.due("rests of 32", x.rests(32), BAD);
         check.due("rests of -1", x.rests(-1), BAD);
         check.due("rests of the least", x.rests(Integer.MIN_VALUE), BAD);
+    }
+
+    /** The same, where both theorems that a rule names rest on a third one. */
+    private static void restOnWhatBothRestOn(Check check) {
+        AdjoinedSets x = new AdjoinedSets();
+        check.prove(x, "=aa", 1, 0, 0, 0);
+        check.prove(x, ">=aav=aa=bb", 0, 0, 0, 1);
+        check.prove(x, "v=aa=bb", 9, 0, 1, 2);
+        check.prove(x, ">=aa>v=aa=bb^=aav=aa=bb", 0, 0, 0, 3);
+        check.prove(x, ">v=aa=bb^=aav=aa=bb", 9, 0, 3, 4);
+        check.prove(x, "^=aav=aa=bb", 9, 2, 4, 5);
+        check.prove(x, "v<ab!<ab", 0, 0, 0, 6);
+        check.prove(x, "v<0b!<0b", 10, 6, 0, 7);
+        check.prove(x, ">v<ab!<abv<+acb!<+acb", 0, 0, 0, 8);
+        check.prove(x, ">v<ab!<abv<+acb!<+acb", 10, 8, 7, 9);
+        check.prove(x, "v<ab!<ab", 12, 7, 9, 10);
+        int[] rests = {1, 2, 7, 8, 25, 63, 64, 192, 256, 768, 1984};
+        for (int i = 0; i < rests.length; i++) {
+            check.due("rests of " + i, x.rests(i), rests[i]);
+        }
     }
 
     private static String joined(int letters) {

@@ -220,7 +220,7 @@ public final class WorkEdgeTest {
         for (int height = 26; height <= 34; height++) {
             AdjoinedSets x = new AdjoinedSets();
             check.eval(x, tall(x, height), height <= 32 ? 0 : OUT);
-            check.truth(x, "=0" + tallAgain(), height <= 31 ? 1 : OUT);
+            check.truth(x, "=0C0", height <= 31 ? 1 : OUT);
         }
         AdjoinedSets x = new AdjoinedSets();
         check.define(x, 0, 1, "UUUUUUUUUUUa", 0);
@@ -228,21 +228,35 @@ public final class WorkEdgeTest {
         // 24 in B0, and 8 or 9 before it.
         check.eval(x, "UUUUUUUUB0", 0);
         check.eval(x, "UUUUUUUUUB0", OUT);
+        opensFunctionsUpTo31();
     }
 
-    /** Defines functions so that the term that is answered has so many (26 to 34) open at a time; it is the empty set. */
+    /** A function's terms and its body are one more, so it may be the one before the last, and not the last. */
+    private void opensFunctionsUpTo31() {
+        AdjoinedSets x = new AdjoinedSets();
+        check.define(x, 3, 3, "|a|bc", 0);
+        check.define(x, 0, 1, "UUUUUUUUUUDaaa", 0);
+        check.define(x, 1, 1, "UUUUUUUUUUAa", 0);
+        // D is the 12th in A0 and the 23rd in B0; its body opens three.
+        check.eval(x, "UUUUUUB0", 0);
+        check.eval(x, "UUUUUUUB0", OUT);
+        AdjoinedSets y = new AdjoinedSets();
+        check.define(y, 3, 3, "c", 0);
+        check.define(y, 0, 1, "UUUUUUUUUUDaaa", 0);
+        check.define(y, 1, 1, "UUUUUUUUUUAa", 0);
+        check.eval(y, "UUUUUUUUB0", 0);
+        check.eval(y, "UUUUUUUUUB0", OUT);
+    }
+
+    /** A term, C0, for which so many (26 to 34) are worked out at a time; it is the empty set. */
     private String tall(AdjoinedSets x, int height) {
         check.define(x, 0, 1, "UUUUUUUUUUUa", 0);
         check.define(x, 1, 1, "UUUUUUUUUUAa", 0);
         check.define(x, 2, 1, "UUUUUUUUUU".substring(0, height - 25) + "Ba", 0);
-        return tallAgain();
-    }
-
-    private static String tallAgain() {
         return "C0";
     }
 
-    /** The same, for each kind of part: ? stands for it, one deeper than the whole, ?? two deeper. */
+    /** The same, for each kind of part: ? stands for it. */
     private void eachPartIsOneMoreAtATime() {
         String[] terms = {"U?", "P?", "T?", "+?0", "+0?", "|?0", "|0?", "&?0", "&0?", "-?0", "-0?", "{b?=00", "Ib?0", "Ib1?",
             "D?00", "D0?0", "D00?"};
