@@ -1131,7 +1131,7 @@ public final class AdjoinedSets {
             while (k < count && !it.has(place, it, parts[k], it.endOf(parts[k]))) {
                 k++;
             }
-            if (k >= MOST_PARTS) {
+            if (k >= MOST_PARTS || place < 0 || place >= MOST_CHARACTERS) {
                 return false;
             }
             if (k == count) {
@@ -1143,8 +1143,11 @@ public final class AdjoinedSets {
         }
 
         private boolean holdsWith(int values, int place, int depth) {
+            if (depth > DEEPEST || place < 0 || place >= MOST_CHARACTERS) {
+                return false;
+            }
             int c = it.at(place);
-            if (depth > DEEPEST || !isConnective(c)) {
+            if (!isConnective(c)) {
                 return (values >> partAt[place] & 1) != 0;
             }
             boolean f = holdsWith(values, place + 1, depth + 1);

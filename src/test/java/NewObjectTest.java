@@ -1,12 +1,9 @@
-/** Promise 1: a new object; and the constants and members of the public face. */
+/** Promise 1: a new object. */
 public final class NewObjectTest {
-    private static final String FACE = "BAD FULL NO OUT clear define eval let prove rank refute rests size theorem theorems truth type";
-
     public static void main(String[] args) {
         Check check = new Check();
         startsEmpty(check, new AdjoinedSets());
         sharesNothing(check);
-        hasJustTheFace(check);
         check.end("NewObjectTest");
     }
 
@@ -32,25 +29,5 @@ public final class NewObjectTest {
         startsEmpty(check, new AdjoinedSets());
         check.due("buffer of the older object", used.clear(), 3);
         check.eval(used, "Ad", 77);
-    }
-
-    private static void hasJustTheFace(Check check) {
-        check.due("BAD", AdjoinedSets.BAD, -1);
-        check.due("FULL", AdjoinedSets.FULL, -2);
-        check.due("OUT", AdjoinedSets.OUT, -3);
-        check.due("NO", AdjoinedSets.NO, -4);
-        java.util.TreeSet<String> names = new java.util.TreeSet<>();
-        for (java.lang.reflect.Method method : AdjoinedSets.class.getDeclaredMethods()) {
-            if (!java.lang.reflect.Modifier.isPrivate(method.getModifiers())) {
-                names.add(method.getName());
-            }
-        }
-        for (java.lang.reflect.Field field : AdjoinedSets.class.getDeclaredFields()) {
-            if (!java.lang.reflect.Modifier.isPrivate(field.getModifiers())) {
-                names.add(field.getName());
-            }
-        }
-        check.due("the face is " + names, String.join(" ", names).equals(FACE), true);
-        check.due("constructors", AdjoinedSets.class.getDeclaredConstructors().length, 1);
     }
 }

@@ -3,8 +3,12 @@ import java.util.Random;
 /** All promises: many runs of calls, made up from fixed seeds, on the program and on the model side by side. */
 public final class ReferenceTest {
     private static final int RUNS = 800;
-    // An object is used for at most 512 calls: one act makes 30 at most, comparing the theorems some 110.
-    private static final int CALLS_BEFORE_LAST_ACT = 360;
+    private static final int MOST_CALLS = 512;
+    // More than the buffer takes, so that it is FULL now and then.
+    private static final int MOST_TYPED = 68;
+    // The last act and what comes behind it must keep to MOST_CALLS: one act makes 60 at most (three texts, each in up
+    // to 17 pieces and with three calls more), comparing the theorems 109.
+    private static final int CALLS_BEFORE_LAST_ACT = 330;
 
     private final Check check = new Check();
     private final Random random;
@@ -30,6 +34,7 @@ public final class ReferenceTest {
                 test.act();
             }
             test.compareTheorems();
+            test.check.due("calls on one object", test.calls <= MOST_CALLS, true);
             test.check.endIfWrong();
         }
         System.out.println("ReferenceTest: " + runs + " runs are alike");
@@ -40,13 +45,35 @@ public final class ReferenceTest {
         check.due("run " + run + ": " + call + " with " + typed, got, want);
     }
 
+    /** Most often into a cleared buffer; else behind what an earlier call has left there. */
     private void type(String text) {
-        String kept = text.length() > 60 ? text.substring(0, 60) : text;
-        same("clear()", program.clear(), model.clear());
-        typed = kept;
-        for (int k = 0; k < kept.length(); k += 8) {
-            String piece = kept.substring(k, Math.min(kept.length(), k + 8));
+        if (random.nextInt(10) != 0) {
+            same("clear()", program.clear(), model.clear());
+            typed = "";
+        }
+        int most = random.nextInt(4) == 0 ? 4 + random.nextInt(4) : 8;
+        int end = Math.min(text.length(), MOST_TYPED);
+        for (int k = 0; k < end; k += most) {
+            String piece = text.substring(k, Math.min(end, k + most));
+            typed += piece;
             same("type", program.type(Check.packed(piece), piece.length()), model.type(Check.packed(piece), piece.length()));
+        }
+        if (random.nextInt(4) == 0) {
+            refusedCall();
+        }
+    }
+
+    /** A call that answers BAD or false, and must leave all as it was, the buffer too. */
+    private void refusedCall() {
+        switch (random.nextInt(8)) {
+            case 0 -> same("type of nothing", program.type('0', 0), model.type('0', 0));
+            case 1 -> same("type of a space", program.type(' ', 1), model.type(' ', 1));
+            case 2 -> same("let of no letter", program.let(8, 1) ? 1 : 0, model.let(8, 1) ? 1 : 0);
+            case 3 -> same("let of no set", program.let(0, -1) ? 1 : 0, model.let(0, -1) ? 1 : 0);
+            case 4 -> same("define of no function", program.define(4, 1), model.define(4, 1));
+            case 5 -> same("define with no terms", program.define(0, 0), model.define(0, 0));
+            case 6 -> same("prove by no rule", program.prove(18, 0, 0), model.prove(18, 0, 0));
+            default -> same("refute below none", program.refute(0), model.refute(0));
         }
     }
 
